@@ -307,7 +307,7 @@ public final class SiegeInk {
     // ---- what would be
 
     public int over() {
-        trial.copyOf(town);
+        trial.becomeLike(town);
         for (int days = 0; days <= DAYS_AHEAD; days++) {
             if (trial.living() == 0) {
                 return days;
@@ -321,7 +321,7 @@ public final class SiegeInk {
         int longest = CANNOT;
         int most = -1;
         for (int man = 0; man < book.men; man++) {
-            trial.copyOf(town);
+            trial.becomeLike(town);
             int days = trial.daysAlive(man, DAYS_AHEAD, NONE);
             if (days > most) {
                 most = days;
@@ -335,7 +335,7 @@ public final class SiegeInk {
         if (!isMan(man)) {
             return NONE;
         }
-        trial.copyOf(town);
+        trial.becomeLike(town);
         return trial.daysAlive(man, DAYS_AHEAD, NONE);
     }
 
@@ -347,7 +347,7 @@ public final class SiegeInk {
         int most = town.bothLive(from, to) ? Math.min(town.dropsOf(from), MOST_SPENT) : 0;
         // More ink may make a LAW buy less, so that each amount has to be tried.
         for (int drops = 0; drops <= most; drops++) {
-            trial.copyOf(town);
+            trial.becomeLike(town);
             trial.pass(from, to, drops);
             if (trial.daysAlive(to, n, NONE) == n) {
                 return drops;
@@ -364,7 +364,7 @@ public final class SiegeInk {
         int most = CANNOT;
         for (int other = 0; other < book.men; other++) {
             if (other != man) {
-                trial.copyOf(town);
+                trial.becomeLike(town);
                 int days = trial.daysAlive(man, DAYS_AHEAD, other);
                 if (days > most) {
                     most = days;
@@ -379,12 +379,12 @@ public final class SiegeInk {
         if (!isMan(man) || !isMan(whom) || lines < 1 || lines > MOST_LINES) {
             return NOT_WRITABLE;
         }
-        trial.copyOf(town);
+        trial.becomeLike(town);
         if (trial.writeLetter(man, lines) == CANNOT) {
             return NOT_WRITABLE;
         }
         int written = trial.daysAlive(whom, DAYS_AHEAD, NONE);
-        trial.copyOf(town);
+        trial.becomeLike(town);
         return trial.daysAlive(whom, DAYS_AHEAD, NONE) - written;
     }
 
@@ -773,7 +773,7 @@ public final class SiegeInk {
             tokens.scan(tape);
             checkForm(tape.length);
             if (fault == 0) {
-                fill(into);
+                writeDown(into);
             }
             return fault;
         }
@@ -797,7 +797,7 @@ public final class SiegeInk {
             faultAt = at;
         }
 
-        private void fill(Book into) {
+        private void writeDown(Book into) {
             into.clear();
             inLaw = false;
             pendingNumber = 0;
@@ -836,15 +836,15 @@ public final class SiegeInk {
                 return addName(into, name);
             }
             if (tell == PRICE || step > 1) {
-                good = indexOf(goodNames, into.goods, name);
+                good = numberOf(goodNames, into.goods, name);
                 return good < 0 ? UNKNOWN : 0;
             }
-            man = indexOf(manNames, into.men, name);
+            man = numberOf(manNames, into.men, name);
             return man < 0 ? UNKNOWN : 0;
         }
 
         private int addName(Book into, long name) {
-            if (indexOf(manNames, into.men, name) >= 0 || indexOf(goodNames, into.goods, name) >= 0) {
+            if (numberOf(manNames, into.men, name) >= 0 || numberOf(goodNames, into.goods, name) >= 0) {
                 return TWICE;
             }
             if (tell == MAN && into.men < MOST_MEN) {
@@ -859,7 +859,7 @@ public final class SiegeInk {
             return 0;
         }
 
-        private static int indexOf(long[] names, int number, long name) {
+        private static int numberOf(long[] names, int number, long name) {
             for (int i = 0; i < number && i < names.length; i++) {
                 if (names[i] == name) {
                     return i;
@@ -1156,7 +1156,7 @@ public final class SiegeInk {
         }
 
         /** The PAGES themselves stay away: what would be asks only how many there are. */
-        void copyOf(Town other) {
+        void becomeLike(Town other) {
             System.arraycopy(other.cells, 0, cells, 0, CELLS);
         }
 
