@@ -688,20 +688,26 @@ public final class SiegeInk {
         private boolean followForm(int kind) {
             char due = step < form.length() ? form.charAt(step) : ';';
             step++;
-            switch (due) {
-                case 'n': return kind == NAME;
-                case 'i': return kind == NUMBER;
-                case '=':
-                    mode = AT_UNIT;
-                    part = 0;
-                    ifs = 0;
-                    depth = 0;
-                    fresh = true;
-                    return kind == EQUALS;
-                default:
-                    mode = IN_TEXT;
-                    return kind == SEMICOLON;
+            if (due == 'n') {
+                return kind == NAME;
             }
+            if (due == 'i') {
+                return kind == NUMBER;
+            }
+            if (due == '=') {
+                beginLaw();
+                return kind == EQUALS;
+            }
+            mode = IN_TEXT;
+            return kind == SEMICOLON;
+        }
+
+        private void beginLaw() {
+            mode = AT_UNIT;
+            part = 0;
+            ifs = 0;
+            depth = 0;
+            fresh = true;
         }
 
         private boolean takeUnit(int kind) {
