@@ -79,6 +79,10 @@ public final class AheadTest {
         CHECK.due("2079 DROPS are beyond 2000", x.aid(0, 1, 1), -2);
         x = Check.town("man a 9999 0 1 0; man b 0 0 1 0; good g 9 999; price g = 80; dips b = 25; buys b g = 1; grace 0;");
         CHECK.due("2000 DROPS are not", x.aid(0, 1, 9), 2000);
+        x = Check.town("man a 90 0 1 0; man b 0 0 1 1; good g 1 99; buys b g = 1; grace 0;");
+        CHECK.due("1 DROP is enough", x.aid(0, 1, 2), 1);
+        x.days(1);
+        CHECK.due("but the dead lend none", x.aid(0, 1, 1), -2);
         // More is not always better: with more than 5 DROPS he buys nothing.
         x = Check.town("man a 90 0 1 0; man b 0 0 1 0; good g 1 99; buys b g = if ink < 6 then ink else 0; grace 0;");
         CHECK.due("4 for 4 days", x.aid(0, 1, 4), 4);
@@ -142,6 +146,9 @@ public final class AheadTest {
         CHECK.due("for no such one", x.unwritten(0, 1, -1), -1000000);
         x.days(8);
         CHECK.due("he lives no more", x.unwritten(1, 1, 0), -1000000);
+        x = Check.town("man a 1000 0 1 0; good g 1 99; price g = 2; buys a g = 1; grace 0;");
+        CHECK.due("999 lines", x.unwritten(0, 999, 0), 99);
+        CHECK.due("1 line", x.unwritten(0, 1, 0), 0);
     }
 
     private static void best() {

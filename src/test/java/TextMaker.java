@@ -23,14 +23,14 @@ final class TextMaker {
     }
 
     String text() {
-        int people = chance(3) ? upTo(7) : 1 + upTo(4);
+        int people = chance(3) ? upTo(7) : 1 + upTo(5);
         for (int i = 0; i < people; i++) {
             String name = name("m", men.size());
             men.add(name);
             put("man " + name + " " + number(chance(10) ? 9999 : 300) + " " + number(chance(50) ? 20 : 200) + " "
                 + (chance(1) ? 0 : 1 + upTo(chance(70) ? 2 : 8)) + " " + number(12));
         }
-        int things = chance(3) ? upTo(6) : 1 + upTo(3);
+        int things = chance(3) ? upTo(6) : 1 + upTo(4);
         for (int i = 0; i < things; i++) {
             String name = name("g", goods.size());
             goods.add(name);

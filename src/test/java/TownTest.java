@@ -211,6 +211,8 @@ public final class TownTest {
         CHECK.due("too few", x.lend(0, 1, 1), false);
         CHECK.due("n 0", x.lend(1, 0, 0), false);
         CHECK.due("n below 0", x.lend(1, 0, -5), false);
+        CHECK.due("n 1", x.lend(1, 2, 1), true);
+        CHECK.due("n 1 back", x.repay(2, 1, 1), 1);
         CHECK.due("to himself", x.lend(1, 1, 1), false);
         CHECK.due("no such one", x.lend(1, 3, 1), false);
         CHECK.due("no such one", x.lend(-1, 1, 1), false);
