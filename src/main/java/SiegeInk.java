@@ -24,6 +24,7 @@ public final class SiegeInk {
     private static final int MOST_WANTED = 999;
     private static final int MOST_ROUNDS = 300;
     private static final int MOST_POURED = 500;
+    private static final int MOST_TOLD = 20;
     private static final int SLOTS = 3;
 
     private static final int TAPE_BYTES = 2000;
@@ -75,7 +76,7 @@ public final class SiegeInk {
     private final Past past = new Past();
     private final Tests tests = new Tests();
     private final Basket basket = new Basket();
-    private final int[] heldCells = new int[SLOTS * Town.CELLS];
+    private final int[] heldCells = new int[SLOTS * Town.HELD];
     private final int[] heldPages = new int[SLOTS * MOST_PAGES * PAGE_CELLS];
     private final boolean[] held = new boolean[SLOTS];
     private final Town town;
@@ -122,7 +123,6 @@ public final class SiegeInk {
             town.startFrom(told);
             trial.startFrom(told);
             past.clear();
-            tests.number = 0;
             for (int i = 0; i < SLOTS; i++) {
                 held[i] = false;
             }
@@ -208,7 +208,7 @@ public final class SiegeInk {
             case 10: return town.allDrops();
             case 11: return tape.length;
             case 12: return past.number;
-            case 13: return tests.number;
+            case 13: return town.cells[Town.TOLD];
             case 14: return slotsHeld();
             default: return NONE;
         }
@@ -426,20 +426,28 @@ public final class SiegeInk {
     // ---- watered ink
 
     public int tell(int set, int strong) {
-        if (set < 1 || set >= 1 << book.men || strong < 0 || strong > 100) {
+        int number = town.cells[Town.TOLD];
+        if (set < 1 || set >= 1 << book.men || strong < 0 || strong > 100 || number >= MOST_TOLD) {
             return NONE;
         }
-        return tests.add(set, strong);
+        past.note(town);
+        town.cells[Town.SETS + number] = set;
+        town.cells[Town.STRENGTHS + number] = strong;
+        town.cells[Town.TOLD]++;
+        past.keepIf(true);
+        return number;
     }
 
     public int forget() {
-        int were = tests.number;
-        tests.number = 0;
+        past.note(town);
+        int were = town.cells[Town.TOLD];
+        town.cells[Town.TOLD] = 0;
+        past.keepIf(true);
         return were;
     }
 
     public int watered(int most, int k, int i) {
-        if (most < 1 || most > MOST_POURED || k < 0 || k > tests.number || i < NONE) {
+        if (most < 1 || most > MOST_POURED || k < 0 || k > town.cells[Town.TOLD] || i < NONE) {
             return NONE;
         }
         return tests.waysAfter(town, most, k, i);
@@ -451,7 +459,7 @@ public final class SiegeInk {
         if (slot < 0 || slot >= SLOTS) {
             return false;
         }
-        System.arraycopy(town.cells, 0, heldCells, slot * Town.CELLS, Town.CELLS);
+        System.arraycopy(town.cells, 0, heldCells, slot * Town.HELD, Town.HELD);
         System.arraycopy(town.pages, 0, heldPages, slot * town.pages.length, town.pages.length);
         held[slot] = true;
         return true;
@@ -461,7 +469,7 @@ public final class SiegeInk {
         if (slot < 0 || slot >= SLOTS || !held[slot]) {
             return false;
         }
-        System.arraycopy(heldCells, slot * Town.CELLS, town.cells, 0, Town.CELLS);
+        System.arraycopy(heldCells, slot * Town.HELD, town.cells, 0, Town.HELD);
         System.arraycopy(heldPages, slot * town.pages.length, town.pages, 0, town.pages.length);
         past.clear();
         return true;
@@ -1133,7 +1141,12 @@ public final class SiegeInk {
         private static final int DEBTS = BOUGHT + MOST_GOODS;
         private static final int DAY = DEBTS + MOST_MEN * MOST_MEN;
         private static final int PAGES = DAY + 1;
-        private static final int CELLS = PAGES + 1;
+        /** What is ahead of this a SLOT holds. What is TOLD stands behind: no SLOT holds it, but it is undone. */
+        private static final int HELD = PAGES + 1;
+        private static final int TOLD = HELD;
+        private static final int SETS = TOLD + 1;
+        private static final int STRENGTHS = SETS + MOST_TOLD;
+        private static final int CELLS = STRENGTHS + MOST_TOLD;
 
         private final int[] cells = new int[CELLS];
         private final int[] pages = new int[MOST_PAGES * PAGE_CELLS];
@@ -1163,7 +1176,7 @@ public final class SiegeInk {
 
         /** The PAGES themselves stay away: what would be asks only how many there are. */
         void becomeLike(Town other) {
-            System.arraycopy(other.cells, 0, cells, 0, CELLS);
+            System.arraycopy(other.cells, 0, cells, 0, HELD);
         }
 
         boolean isAlive(int man) {
@@ -1500,34 +1513,19 @@ public final class SiegeInk {
         }
     }
 
-    /** The TOLD tests. */
+    /** The TOLD tests, poured together anew with the ink of now. */
     private static final class Tests {
-        private static final int MOST = 20;
-
-        private final int[] set = new int[MOST];
-        private final int[] strong = new int[MOST];
-        private final int[] soot = new int[MOST];
-        private final int[] drops = new int[MOST];
-        private int number;
-
-        int add(int men, int strength) {
-            if (number >= MOST) {
-                return NONE;
-            }
-            set[number] = men;
-            strong[number] = strength;
-            number++;
-            return number - 1;
-        }
+        private final int[] soot = new int[MOST_TOLD];
+        private final int[] drops = new int[MOST_TOLD];
 
         /** How many ways (i NONE), or the i-th. That none WATERED is MAN 0 by 0. */
         int waysAfter(Town town, int most, int known, int i) {
-            int k = Math.min(known, number);
+            int k = Math.min(known, MOST_TOLD);
             pour(town, k);
             int ways = 0;
             for (int man = 0; man < town.book.men; man++) {
                 for (int more = man == 0 ? 0 : 1; more <= most; more++) {
-                    if (isSo(k, man, more)) {
+                    if (isSo(town, k, man, more)) {
                         if (ways == i) {
                             return 1000 * man + more;
                         }
@@ -1543,7 +1541,7 @@ public final class SiegeInk {
                 soot[t] = 0;
                 drops[t] = 0;
                 for (int man = 0; man < town.book.men; man++) {
-                    if ((set[t] >> man & 1) == 1) {
+                    if (isIn(town, t, man)) {
                         soot[t] += town.cells[Town.SOOT + man];
                         drops[t] += town.dropsOf(man);
                     }
@@ -1551,10 +1549,14 @@ public final class SiegeInk {
             }
         }
 
-        private boolean isSo(int k, int man, int more) {
+        private static boolean isIn(Town town, int test, int man) {
+            return (town.cells[Town.SETS + test] >> man & 1) == 1;
+        }
+
+        private boolean isSo(Town town, int k, int man, int more) {
             for (int t = 0; t < k; t++) {
-                int poured = (set[t] >> man & 1) * more;
-                if (Town.strength(soot[t], drops[t] + poured) != strong[t]) {
+                int poured = isIn(town, t, man) ? more : 0;
+                if (Town.strength(soot[t], drops[t] + poured) != town.cells[Town.STRENGTHS + t]) {
                     return false;
                 }
             }

@@ -4,6 +4,7 @@ public final class InkTest {
 
     public static void main(String[] args) {
         told();
+        toldIsUndone();
         watered();
         wateredByNow();
         slots();
@@ -32,6 +33,37 @@ public final class InkTest {
         CHECK.due("forget none", x.forget(), 0);
         CHECK.due("tell anew", x.tell(3, 100), 0);
         CHECK.due("without MEN", new SiegeInk().tell(1, 5), -1);
+    }
+
+    private static void toldIsUndone() {
+        SiegeInk x = Check.town("man a 10 0 1 9; man b 10 0 1 9;");
+        x.letter(0, 1);
+        x.tell(1, 50);
+        x.tell(1, 60);
+        x.tell(0, 60);
+        x.forget();
+        x.tell(2, 70);
+        CHECK.due("things done", x.count(12), 5);
+        x.hold(0);
+        x.feed(1, 2, 3, 4, 5);
+        x.back(1);
+        CHECK.due("a SLOT and the tape are beside", x.count(12), 5);
+        CHECK.due("undo tell", x.undo(), true);
+        CHECK.due("TOLD", x.count(13), 0);
+        CHECK.due("undo forget", x.undo(), true);
+        CHECK.due("TOLD again", x.count(13), 2);
+        CHECK.due("the first: 9 more to the 9 left", x.watered(20, 1, 0), 9);
+        CHECK.due("both", x.watered(20, 2, -1), 0);
+        CHECK.due("undo tell", x.undo(), true);
+        CHECK.due("TOLD", x.count(13), 1);
+        CHECK.due("undo tell", x.undo(), true);
+        CHECK.due("TOLD", x.count(13), 0);
+        CHECK.due("the letter stands", x.count(8), 1);
+        CHECK.due("undo letter", x.undo(), true);
+        CHECK.due("no more", x.undo(), false);
+        CHECK.due("the SLOT holds", x.restore(0), true);
+        CHECK.due("the letter", x.count(8), 1);
+        CHECK.due("the tape is as it was", x.count(11), 19);
     }
 
     private static void watered() {
@@ -163,7 +195,7 @@ public final class InkTest {
         x.hold(2);
         x.feed(1, 2, 3, 4, 5);
         x.back(3);
-        int[] due = {3, 2, 3, 2, 33, 0, 2, 2, 2, 11, 95, 17, 3, 3, 1};
+        int[] due = {3, 2, 3, 2, 33, 0, 2, 2, 2, 11, 95, 17, 6, 3, 1};
         for (int what = 0; what < due.length; what++) {
             CHECK.due("count(" + what + ")", x.count(what), due[what]);
         }

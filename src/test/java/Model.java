@@ -496,8 +496,9 @@ final class Model {
     private int place = -1;
     private Town town = new Town();
     private final ArrayDeque<Town> past = new ArrayDeque<>();
+    private final ArrayDeque<List<int[]>> pastTold = new ArrayDeque<>();
     private final Town[] slots = new Town[3];
-    private final List<int[]> told = new ArrayList<>();
+    private List<int[]> told = new ArrayList<>();
 
     private boolean isMan(int m) {
         return m >= 0 && m < town.men.size();
@@ -517,8 +518,10 @@ final class Model {
 
     private void push() {
         past.addLast(town.copy());
+        pastTold.addLast(new ArrayList<>(told));
         if (past.size() > 25) {
             past.removeFirst();
+            pastTold.removeFirst();
         }
     }
 
@@ -553,6 +556,7 @@ final class Model {
             return f.number;
         }
         past.clear();
+        pastTold.clear();
         told.clear();
         for (int i = 0; i < 3; i++) {
             slots[i] = null;
@@ -667,6 +671,7 @@ final class Model {
             return false;
         }
         town = past.removeLast();
+        told = pastTold.removeLast();
         return true;
     }
 
@@ -838,11 +843,13 @@ final class Model {
         if (told.size() >= 20 || set < 1 || set >= 1 << town.men.size() || strong < 0 || strong > 100) {
             return -1;
         }
+        push();
         told.add(new int[] {set, strong});
         return told.size() - 1;
     }
 
     int forget() {
+        push();
         int n = told.size();
         told.clear();
         return n;
@@ -897,6 +904,7 @@ final class Model {
         }
         town = slots[slot].copy();
         past.clear();
+        pastTold.clear();
         return true;
     }
 

@@ -222,12 +222,14 @@ public final class TextTest {
         x.hold(1);
         CHECK.due("read with a FAULT", Check.read(x, "man b 1 1 1 1; man b 1 1 1 1;"), 3);
         CHECK.due("its place", x.place(), 19);
-        int[] due = {1, 1, 0, 0, 20, 3, 0, 1, 1, 2, 8, 0, 1, 1, 1};
+        int[] due = {1, 1, 0, 0, 20, 3, 0, 1, 1, 2, 8, 0, 2, 1, 1};
         for (int what = 0; what < due.length; what++) {
             CHECK.due("after a FAULT: count(" + what + ")", x.count(what), due[what]);
         }
         CHECK.due("larder after a FAULT", x.man(0, 3), 5);
         CHECK.due("undo after a FAULT", x.undo(), true);
+        CHECK.due("TOLD after undo", x.count(13), 0);
+        CHECK.due("undo once more", x.undo(), true);
         CHECK.due("ink after undo", x.man(0, 0), 10);
     }
 
