@@ -20,8 +20,19 @@ final class Check {
         due(call, got ? 1 : 0, want ? 1 : 0);
     }
 
-    int asked() {
-        return asked;
+    /** A text read by a new object has that FAULT, there; 0 and -1 for none. */
+    void fault(String text, int fault, int place) {
+        SiegeInk x = new SiegeInk();
+        due("read of " + shown(text), read(x, text), fault);
+        due("place of " + shown(text), x.place(), place);
+    }
+
+    void fine(String text) {
+        fault(text, 0, -1);
+    }
+
+    private static String shown(String text) {
+        return "'" + (text.length() > 90 ? text.substring(0, 90) + ".." : text) + "'";
     }
 
     void end() {

@@ -16,17 +16,11 @@ public final class TextTest {
     }
 
     private static void fault(String text, int fault, int place) {
-        SiegeInk x = new SiegeInk();
-        CHECK.due("read of " + shown(text), Check.read(x, text), fault);
-        CHECK.due("place of " + shown(text), x.place(), place);
-    }
-
-    private static String shown(String text) {
-        return "'" + (text.length() > 90 ? text.substring(0, 90) + ".." : text) + "'";
+        CHECK.fault(text, fault, place);
     }
 
     private static void fine(String text) {
-        fault(text, 0, -1);
+        CHECK.fine(text);
     }
 
     private static void newObject() {
