@@ -11,6 +11,7 @@ public final class EdgesOfDaysTest {
         eating();
         grace();
         theDeadStayAsTheyAre();
+        sixMen();
         buysFewerByStore();
         buysFewerByDrops();
         buysNone();
@@ -21,6 +22,7 @@ public final class EdgesOfDaysTest {
         undoTheLast25();
         undoInARound();
         undoBehindOthers();
+        undoBehindRefusedCalls();
         CHECK.end();
     }
 
@@ -106,6 +108,42 @@ public final class EdgesOfDaysTest {
             x.days(1);
         }
         CHECK.due("the other one ate", x.man(1, 3), 95);
+    }
+
+    /** All the MEN there can be, each with numbers of his own. */
+    private static void sixMen() {
+        StringBuilder text = new StringBuilder("good g 1 99; good h 1 99; good i 1 99; price g = ink; price h = soot; price i = larder; grace 2; faint 0;");
+        for (int i = 0; i < 6; i++) {
+            text.append("man m").append((char) ('a' + i)).append(' ').append(i + 1).append(' ').append(2 * i + 1).append(" 2 ").append(3 * i).append(";");
+            text.append("dips m").append((char) ('a' + i)).append(" = 1;");
+        }
+        SiegeInk x = Check.town(text.toString());
+        CHECK.due("ink of six", x.good(0, 2), 21 + 36);
+        CHECK.due("soot of six", x.good(1, 2), 21);
+        CHECK.due("larder of six", x.good(2, 2), 45);
+        CHECK.due("DROPS of six", x.count(10), 57);
+        CHECK.due("who live", x.count(7), 6);
+        // One line by the first, and one day without food for the last as well as for the first.
+        CHECK.due("letter", x.letter(0, 1), 1);
+        CHECK.due("who live", x.count(7), 6);
+        CHECK.due("ink of six", x.good(0, 2), 56);
+        CHECK.due("larder of six", x.good(2, 2), 45);
+        CHECK.due("a day", x.days(1), 1);
+        int[] larders = {0, 1, 4, 7, 10, 13};
+        for (int i = 0; i < 6; i++) {
+            CHECK.due("LARDER of " + i, x.man(i, 3), larders[i]);
+            CHECK.due("without food: " + i, x.man(i, 4), i == 0 ? 1 : 0);
+            CHECK.due("lines of " + i, x.man(i, 6), i == 0 ? 1 : 0);
+        }
+        CHECK.due("larder of six", x.good(2, 2), 35);
+        x.days(7);
+        CHECK.due("the last is without food for one day", x.man(5, 4), 1);
+        CHECK.due("he and one more live", x.count(7), 2);
+        CHECK.due("ink of those two", x.good(0, 2), 6 + 11 + 5 + 9);
+        CHECK.due("soot of those two", x.good(1, 2), 11);
+        CHECK.due("DROPS of six", x.count(10), 56);
+        CHECK.due("the day", x.days(2), 10);
+        CHECK.due("none lives", x.count(7), 0);
     }
 
     // ---- BUYS
@@ -347,5 +385,30 @@ public final class EdgesOfDaysTest {
         CHECK.due("what was done since", x.undo(), true);
         CHECK.due("PAGES", x.count(8), 1);
         CHECK.due("no more", x.undo(), false);
+    }
+
+    /** With 25 things that can be undone, what is refused takes none of them away. */
+    private static void undoBehindRefusedCalls() {
+        for (int n = 24; n <= 30; n++) {
+            SiegeInk x = deeds(n);
+            x.order(0, 0, 99);
+            x.letter(1, 999);
+            x.lend(0, 1, 9999);
+            x.repay(0, 1, 1);
+            x.blot(0, 1);
+            x.water(0, 9999);
+            x.days(0);
+            x.days(101);
+            x.tell(0, 5);
+            x.undo();
+            x.order(0, 0, 99);
+            x.letter(1, 999);
+            x.days(0);
+            for (int i = 1; i < Math.min(n, 25); i++) {
+                CHECK.due("undo " + i + " of " + n, x.undo(), true);
+            }
+            CHECK.due("no more of " + n, x.undo(), false);
+            Twins.alike(CHECK, n + " deeds less the last 25", Twins.now(x), Twins.now(deeds(Math.max(0, n - 25))));
+        }
     }
 }

@@ -22,6 +22,8 @@ public final class EdgesOfFaultsTest {
         lawsStayBound();
         faultChangesNothing();
         aTextIsInPlaceOfTheOneAhead();
+        aFaultLeavesNothingBehind();
+        manyTextsOneByOne();
         CHECK.end();
     }
 
@@ -392,5 +394,59 @@ public final class EdgesOfFaultsTest {
         Twins.alike(CHECK, "all begins anew", Twins.later(x), Twins.later(Check.town(text)));
         CHECK.due("read of nothing", x.read(), 0);
         Twins.alike(CHECK, "an empty text", Twins.later(x), Twins.later(new SiegeInk()));
+    }
+
+    /** Wherever a text breaks off, the next one is read as if it had not been. */
+    private static void aFaultLeavesNothingBehind() {
+        String text = "man a 30 0 1 9 ; dips a = 3 ; good g 2 6 ; price g = if ( ink + ( 1 ) ) < 9 then ( 2 ) else if 3 < 2 then 4 else ( 5 * ( 1 + 1 ) ) ;"
+            + " buys a g = 1 ; wants a g = 2 ; faint 7 ; grace 1 ;";
+        String start = "";
+        for (String token : text.split(" ")) {
+            start = start.isEmpty() ? token : start + " " + token;
+            SiegeInk x = new SiegeInk();
+            CHECK.due("'" + start + " #'", Check.read(x, start + " #"), 1);
+            CHECK.due("the whole text behind it", Check.read(x, text), 0);
+            CHECK.due("its price", x.good(0, 2), 10);
+            CHECK.due("its dips", x.man(0, 7), 3);
+            x.days(1);
+            CHECK.due("its BUYS", x.count(8), 1);
+            CHECK.due("its WANTS", x.settles(0, 50, 1), 0);
+        }
+        String[] starts = {BOTH + "price g=((((((", BOTH + "price g=" + times("if 1<2 then 3 else ", 4), men(6) + "#", goods(5) + "#",
+            BOTH + times("buys a g=1;", 12) + "#", BOTH + times("wants a g=1;", 12) + "#", ofTokens(400) + "#",
+            men(6) + "good g 0 1;", goods(5) + "good ga 1 1;", BOTH + "dips a=1;dips b=1;"};
+        for (String one : starts) {
+            SiegeInk x = new SiegeInk();
+            CHECK.due("a FAULT in " + one, Check.read(x, one) != 0, true);
+            CHECK.due("all the room there is", Check.read(x, men(6) + goods(5) + times("buys ma ga=1;", 12) + times("wants mb gb=1;", 12)
+                + "price ga=" + law(4) + "price gb=" + nested(6) + ";"), 0);
+            CHECK.due("MEN", x.count(0), 6);
+            CHECK.due("GOODS", x.count(1), 5);
+            CHECK.due("BUYS", x.count(2), 12);
+            CHECK.due("WANTS", x.count(3), 12);
+            CHECK.due("PRICE", x.good(0, 2), 3);
+        }
+    }
+
+    /** LAWS of 390 TOKENS again and again, and a basket of more and of fewer GOODS. */
+    private static void manyTextsOneByOne() {
+        SiegeInk x = new SiegeInk();
+        for (int i = 1; i <= 8; i++) {
+            CHECK.due("text " + i, Check.read(x, PRICE + i + times("+0", 194) + ";"), 0);
+            CHECK.due("its price", x.good(0, 2), i);
+            CHECK.due("another", Check.read(x, "good h 1 1;faint 3;"), 0);
+            CHECK.due("without a price", x.good(0, 2), 1);
+        }
+        x = new SiegeInk();
+        CHECK.due("two GOODS", Check.read(x, "man a 9 0 1 0;good g 1 9;good h 9 9;"), 0);
+        CHECK.due("BREAD of two", x.best(0, 0), 81);
+        CHECK.due("one GOOD", Check.read(x, "man a 9 0 1 0;good g 1 9;"), 0);
+        CHECK.due("BREAD of one", x.best(0, 0), 9);
+        CHECK.due("none", Check.read(x, "man a 9 0 1 0;"), 0);
+        CHECK.due("BREAD of none", x.best(0, 0), 0);
+        CHECK.due("five", Check.read(x, "man a 9 0 1 0;" + goods(5)), 0);
+        CHECK.due("BREAD of five", x.best(0, 0), 5);
+        CHECK.due("three", Check.read(x, "man a 9 0 1 0;" + goods(3)), 0);
+        CHECK.due("BREAD of three", x.best(0, 0), 3);
     }
 }
