@@ -343,8 +343,9 @@ public final class SiegeInk {
         if (!areTwo(from, to) || n < 1 || n > DAYS_AHEAD) {
             return NONE;
         }
-        // Lending needs both alive; to lend nothing needs neither.
-        int most = town.bothLive(from, to) ? Math.min(town.dropsOf(from), MOST_SPENT) : 0;
+        // Lending needs both alive, and ink feeds only one who BUYS; to lend nothing needs neither.
+        boolean mayHelp = town.bothLive(from, to) && book.buys.areAnyOf(to);
+        int most = mayHelp ? Math.min(town.dropsOf(from), MOST_SPENT) : 0;
         // More ink may make a LAW buy less, so that each amount has to be tried.
         for (int drops = 0; drops <= most; drops++) {
             trial.becomeLike(town);
@@ -1078,6 +1079,15 @@ public final class SiegeInk {
                 law[number] = start;
                 number++;
             }
+        }
+
+        boolean areAnyOf(int whose) {
+            for (int i = 0; i < number; i++) {
+                if (man[i] == whose) {
+                    return true;
+                }
+            }
+            return false;
         }
     }
 

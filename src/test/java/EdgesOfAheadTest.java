@@ -170,6 +170,12 @@ public final class EdgesOfAheadTest {
         // The least, though less would do again with more.
         CHECK.due("3 or 7 and more", Check.town("man a 50 0 1 9; man b 0 0 1 0; good g 9 9;"
             + "buys b g = if ink < 3 then 0 else if ink < 4 then 1 else if ink < 7 then 0 else 1; grace 0;").aid(0, 1, 1), 3);
+        // Who BUYS nothing himself is not helped by ink, whatever others BUY.
+        String deals = "buys a g = 1;".repeat(11);
+        SiegeInk idle = Check.town("man a 50 0 1 9; man b 0 0 1 5; good g 1 99; grace 0;" + deals);
+        CHECK.due("5 days by his LARDER", idle.aid(0, 1, 5), 0);
+        CHECK.due("6 days", idle.aid(0, 1, 6), -2);
+        CHECK.due("by the twelfth of BUYS", Check.town("man a 50 0 1 9; man b 0 0 1 5; good g 1 99; grace 0;" + deals + "buys b g = 1;").aid(0, 1, 6), 1);
         // The ink that goes from a is missed by a alone.
         SiegeInk x = Check.town("man a 5 0 1 0; man b 0 0 1 0; good g 1 9; buys a g = 1; buys b g = 1; grace 0;");
         CHECK.due("all that a has", x.aid(0, 1, 5), 5);

@@ -5,6 +5,9 @@ public final class ModelTest {
     private static final Check CHECK = new Check("ModelTest");
     private static final int RUNS = 400;
     private static final int CALLS = 300;
+    /** What no caller should give, but may. */
+    private static final int[] WILD = {Integer.MIN_VALUE, Integer.MIN_VALUE + 1, -65536, -1000, -3, -2, -1, 0, 1, 6, 64, 100, 101,
+        200, 201, 501, 999, 1000, 9999, 10000, 65536, 1 << 30, Integer.MAX_VALUE - 1, Integer.MAX_VALUE};
 
     private final Random random;
     private final SiegeInk x = new SiegeInk();
@@ -85,18 +88,22 @@ public final class ModelTest {
         return s.toString();
     }
 
+    private int orWild(int n) {
+        return chance(2) ? WILD[random.nextInt(WILD.length)] : n;
+    }
+
     private int who() {
         int men = m.count(0);
-        return chance(4) ? upTo(8) - 1 : men == 0 ? 0 : random.nextInt(men);
+        return chance(1) ? WILD[random.nextInt(WILD.length)] : chance(4) ? upTo(8) - 1 : men == 0 ? 0 : random.nextInt(men);
     }
 
     private int ofWhat() {
         int goods = m.count(1);
-        return chance(4) ? upTo(7) - 1 : goods == 0 ? 0 : random.nextInt(goods);
+        return chance(1) ? WILD[random.nextInt(WILD.length)] : chance(4) ? upTo(7) - 1 : goods == 0 ? 0 : random.nextInt(goods);
     }
 
     private int few(int most) {
-        return chance(5) ? upTo(3) - 2 : chance(3) ? Integer.MAX_VALUE - upTo(2) : 1 + random.nextInt(most);
+        return orWild(chance(5) ? upTo(3) - 2 : 1 + random.nextInt(most));
     }
 
     private void call() {
@@ -104,7 +111,7 @@ public final class ModelTest {
         if (kind < 2) {
             text();
         } else if (kind < 40) {
-            act(random.nextInt(12));
+            act(random.nextInt(13));
         } else if (kind < 70) {
             look(random.nextInt(7));
         } else {
@@ -143,7 +150,7 @@ public final class ModelTest {
                 due("water(" + a + ", " + n + ")", x.water(a, n), m.water(a, n));
                 break;
             case 7:
-                n = chance(5) ? upTo(105) - 2 : upTo(3);
+                n = orWild(chance(5) ? upTo(105) - 2 : upTo(3));
                 due("days(" + n + ")", x.days(n), m.days(n));
                 break;
             case 8:
@@ -151,16 +158,35 @@ public final class ModelTest {
                 due("undo()", x.undo(), m.undo());
                 break;
             case 10:
-                n = upTo(4) - 1;
+                tape();
+                break;
+            case 11:
+                n = orWild(upTo(4) - 1);
                 due("hold(" + n + ")", x.hold(n), m.hold(n));
                 break;
             default:
-                n = upTo(4) - 1;
+                n = orWild(upTo(4) - 1);
                 if (chance(40)) {
                     due("restore(" + n + ")", x.restore(n), m.restore(n));
                 }
                 break;
         }
+    }
+
+    /** Bytes come and go; mostly all of them go, lest every text behind them has a FAULT. */
+    private void tape() {
+        int[] w = new int[5];
+        for (int i = 0; i < 5; i++) {
+            w[i] = chance(30) ? random.nextInt() : 0x20202020;
+        }
+        due("feed", x.feed(w[0], w[1], w[2], w[3], w[4]), m.feed(w));
+        int n = orWild(upTo(25));
+        due("back(" + n + ")", x.back(n), m.back(n));
+        if (chance(80)) {
+            n = m.count(11);
+            due("back(" + n + ")", x.back(n), m.back(n));
+        }
+        due("count(11)", x.count(11), m.count(11));
     }
 
     private void look(int kind) {
@@ -170,11 +196,11 @@ public final class ModelTest {
         switch (kind) {
             case 0:
             case 1:
-                what = upTo(9) - 1;
+                what = orWild(upTo(9) - 1);
                 due("man(" + a + ", " + what + ")", x.man(a, what), m.man(a, what));
                 break;
             case 2:
-                what = upTo(5) - 1;
+                what = orWild(upTo(5) - 1);
                 due("good(" + g + ", " + what + ")", x.good(g, what), m.good(g, what));
                 break;
             case 3:
@@ -182,17 +208,17 @@ public final class ModelTest {
                 due("debt(" + a + ", " + b + ")", x.debt(a, b), m.debt(a, b));
                 break;
             case 4:
-                int i = upTo(m.count(8) + 1) - 1;
-                what = upTo(7) - 1;
+                int i = orWild(upTo(m.count(8) + 1) - 1);
+                what = orWild(upTo(7) - 1);
                 due("page(" + i + ", " + what + ")", x.page(i, what), m.page(i, what));
                 break;
             case 5:
-                int of = upTo(8) - 3;
-                int by = upTo(7) - 2;
+                int of = orWild(upTo(8) - 3);
+                int by = orWild(upTo(7) - 2);
                 due("led(" + by + ", " + of + ")", x.led(by, of), m.led(by, of));
                 break;
             default:
-                what = upTo(16) - 1;
+                what = orWild(upTo(16) - 1);
                 due("count(" + what + ")", x.count(what), m.count(what));
                 break;
         }
@@ -203,13 +229,13 @@ public final class ModelTest {
         int b = who();
         int g = ofWhat();
         int n;
-        int what = upTo(4) - 1;
+        int what = orWild(upTo(4) - 1);
         switch (kind) {
             case 0: due("over()", x.over(), m.over()); break;
             case 1: due("last()", x.last(), m.last()); break;
             case 2: due("lives(" + a + ")", x.lives(a), m.lives(a)); break;
             case 3:
-                n = chance(5) ? upTo(203) - 1 : 1 + upTo(15);
+                n = orWild(chance(5) ? upTo(203) - 1 : 1 + upTo(15));
                 if (chance(20)) {
                     due("aid(" + a + ", " + b + ", " + n + ")", x.aid(a, b, n), m.aid(a, b, n));
                 }
@@ -231,14 +257,14 @@ public final class ModelTest {
                 break;
             case 8:
             case 9:
-                n = chance(5) ? upTo(103) - 2 : upTo(99);
+                n = orWild(chance(5) ? upTo(103) - 2 : upTo(99));
                 due("settles(" + g + ", " + n + ", " + what + ")", x.settles(g, n, what), m.settles(g, n, what));
                 break;
             case 10:
             case 11:
                 // Mostly what is so, or nearly so: else there would seldom be a way.
-                n = 1 + upTo(m.count(0) == 0 ? 1 : (1 << m.count(0)) - 1);
-                int strong = chance(60) && isOne(n) ? m.man(Integer.numberOfTrailingZeros(n), 2) : upTo(103) - 1;
+                n = orWild(1 + upTo(m.count(0) == 0 ? 1 : (1 << m.count(0)) - 1));
+                int strong = orWild(chance(60) && isOne(n) ? m.man(Integer.numberOfTrailingZeros(n), 2) : upTo(103) - 1);
                 due("tell(" + n + ", " + strong + ")", x.tell(n, strong), m.tell(n, strong));
                 break;
             case 12:
@@ -247,9 +273,9 @@ public final class ModelTest {
                 }
                 break;
             default:
-                n = chance(5) ? upTo(502) : 1 + upTo(60);
-                int k = chance(5) ? upTo(22) - 1 : upTo(m.count(13));
-                int i = chance(50) ? -1 : upTo(60) - 2;
+                n = orWild(chance(5) ? upTo(502) : 1 + upTo(60));
+                int k = orWild(chance(5) ? upTo(22) - 1 : upTo(m.count(13)));
+                int i = orWild(chance(50) ? -1 : upTo(60) - 2);
                 due("watered(" + n + ", " + k + ", " + i + ")", x.watered(n, k, i), m.watered(n, k, i));
                 break;
         }
