@@ -20,6 +20,7 @@ public final class EdgesOfFaultsTest {
         defaults();
         theLastOneStands();
         lawsStayBound();
+        numberedAsTheyStand();
         faultChangesNothing();
         aTextIsInPlaceOfTheOneAhead();
         aFaultLeavesNothingBehind();
@@ -346,6 +347,22 @@ public final class EdgesOfFaultsTest {
         for (int i = 0; i < 5; i++) {
             CHECK.due("price of " + i, x.good(i, 2), i + 20);
         }
+    }
+
+    private static void numberedAsTheyStand() {
+        SiegeInk x = Check.town("good z 2 20;man y 30 0 1 3;faint 1;man b 40 0 1 4;good a 5 50;"
+            + "man aa 60 0 1 6;buys b a=1;wants y z=20;grace 1;good m 7 70;");
+        int[] ink = {30, 40, 60};
+        int[] store = {20, 50, 70};
+        for (int i = 0; i < 3; i++) {
+            CHECK.due("MAN " + i, x.man(i, 0), ink[i]);
+            CHECK.due("GOOD " + i, x.good(i, 0), store[i]);
+        }
+        CHECK.due("WANTS of y and z", x.settles(0, 50, 1), 50);
+        CHECK.due("WANTS of none and a", x.settles(1, 50, 1), 0);
+        x.days(1);
+        CHECK.due("BUYS of b", x.page(0, 0), 1);
+        CHECK.due("and a", x.page(0, 1), 1);
     }
 
     private static void faultChangesNothing() {
