@@ -1467,7 +1467,7 @@ public final class SiegeInk {
                 return;
             }
             int goods = town.book.goods;
-            int budget = Math.min(town.dropsOf(man), MOST_SPENT);
+            int budget = Math.max(0, Math.min(town.dropsOf(man), MOST_SPENT));
             int dips = town.dipsNow(man);
             Arrays.fill(most[goods], 0);
             for (int good = goods - 1; good >= 0; good--) {
