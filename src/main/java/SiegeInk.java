@@ -1025,43 +1025,39 @@ public final class SiegeInk {
             for (int at = start < 0 ? size : start; at < size; at++) {
                 int op = ops[at];
                 int number = with[at];
-                if (op == END_OP) {
-                    int value = top > 0 ? stack[top - 1] : 0;
-                    return value < 0 ? 0 : value > most ? most : value;
-                }
                 if (op == NUMBER_OP || op == SEEN_OP) {
                     if (top >= stack.length || op == SEEN_OP && (number < 0 || number >= seen.length)) {
                         return 0;
                     }
                     stack[top] = op == NUMBER_OP ? number : seen[number];
                     top++;
-                    continue;
-                }
-                if (top < 2) {
+                } else if (op == END_OP) {
+                    return top > 0 ? Math.max(0, Math.min(stack[top - 1], most)) : 0;
+                } else if (top < 2) {
                     return 0;
-                }
-                int left = stack[top - 2];
-                int right = stack[top - 1];
-                top--;
-                switch (op) {
-                    case PLUS: stack[top - 1] = left + right; break;
-                    case MINUS: stack[top - 1] = left - right; break;
-                    case TIMES: stack[top - 1] = left * right; break;
-                    case BY:
-                        if (right == 0) {
-                            return 0;
-                        }
-                        stack[top - 1] = left / right;
-                        break;
-                    default:
-                        top--;
-                        if (left >= right && number > at) {
-                            at = number - 1;
-                        }
-                        break;
+                } else if (op == UNLESS_OP) {
+                    top -= 2;
+                    if (stack[top] >= stack[top + 1] && number > at) {
+                        at = number - 1;
+                    }
+                } else {
+                    top--;
+                    if (op == BY && stack[top] == 0) {
+                        return 0;
+                    }
+                    stack[top - 1] = combined(op, stack[top - 1], stack[top]);
                 }
             }
             return 0;
+        }
+
+        private static int combined(int sign, int left, int right) {
+            switch (sign) {
+                case PLUS: return left + right;
+                case MINUS: return left - right;
+                case TIMES: return left * right;
+                default: return right == 0 ? 0 : left / right;
+            }
         }
     }
 
